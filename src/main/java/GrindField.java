@@ -399,12 +399,16 @@ public final class GrindField {
                 if (op == OP_EMIT && emitted >= MAX_CALL_PAIRS) {
                     return CALL_FAILED;
                 }
-                at = isJump(op) ? jump(op, n, at) : at + 1;
+                if (isJump(op)) {
+                    at = jump(op, n, at);
+                    continue;
+                }
                 if (isCombination(op)) {
                     combine(op);
-                } else if (!isJump(op)) {
+                } else {
                     move(op, n);
                 }
+                at++;
             }
             return CALL_FAILED;
         }

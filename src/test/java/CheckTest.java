@@ -23,6 +23,7 @@ public final class CheckTest {
         waysOfSeveralHeights(t);
         unreachable(t);
         longest(t);
+        manyWays(t);
         followsCode(t);
         t.end();
     }
@@ -147,6 +148,11 @@ public final class CheckTest {
         }
         t.checked("15 behind 8", GOOD, MAP,
             0, 0, 0, 0, 0, 0, 0, 0, 0, 0, 0, 0, 0, 0, 0, 0, 15, 9, 17, 0);
+        t.checked("14 behind 8", GOOD, MAP,
+            0, 0, 0, 0, 0, 0, 0, 0, 0, 0, 0, 0, 0, 0, 0, 0, 14, 9, 17, 0);
+        t.checked("16 behind 8", GOOD, MAP, full(8, 16));
+        t.checked("17 behind 8", GOOD, JOIN, full(8, 17));
+        t.checked("18 behind 8", GOOD, END, full(8, 18));
     }
 
     private static int[] full(int height, int op) {
@@ -229,6 +235,19 @@ public final class CheckTest {
         t.checked("go to 64 of 64", 63, MAP, code);
         code[127] = 63;
         t.checked("go to 63 of 64", GOOD, MAP, code);
+    }
+
+    /** Very many ways lead to the last instruction, each with the same height. */
+    private static void manyWays(Tester t) {
+        int[] code = new int[128];
+        for (int i = 0; i < 62; i++) {
+            code[2 * i] = i % 2 == 0 ? 0 : 15;
+        }
+        code[124] = 14;
+        code[125] = 63;
+        code[126] = 17;
+        t.checked("many ways back", GOOD, MAP, code);
+        t.checked("many ways back to too few", 63, FOLD, code);
     }
 
     private static void followsCode(Tester t) {

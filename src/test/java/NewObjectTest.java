@@ -34,6 +34,11 @@ public final class NewObjectTest {
         t.due("splits of the least size", splitsOfAll(Integer.MIN_VALUE), 120);
         t.due("splits of size 17", splitsOfAll(17), 8);
         t.due("splits of the greatest size", splitsOfAll(Integer.MAX_VALUE), 8);
+        GrindField x = new GrindField(17, 1, 1);
+        t.records(x, new int[32]);
+        t.due("splits of 16 records", x.count(9), 1);
+        x.record(0, 0);
+        t.due("splits of 17 records", x.count(9), 2);
     }
 
     private static int splitsOfAll(int size) {

@@ -83,6 +83,10 @@ public final class RunTest {
             t.due("top goes to local", mapped(t, 3, 4, 0, 0, 1, 0, 1, 1, 3, local, 16, 0, 17, 0), 3);
         }
         t.due("key is the lower", mapped(t, 3, 4, 1, 1, 1, 0, 16, 0, 17, 0), 3);
+        GrindField x = t.field(1, new int[] {1, 0, 1, 1, 5, 0, 16, 0, 17, 0}, Tester.FIRST);
+        t.records(x, 3, 4, 0, 9, -1, 0);
+        t.due("run", x.run(0), 3);
+        t.results("changed places", x, 0, -1, 4, 3, 9, 0);
         // 8 on the stack, all added.
         t.due("full stack", mapped(t, 3, 4, 0, 1, 0, 2, 0, 3, 0, 4, 0, 5, 0, 6, 0, 7, 0, 8,
             7, 0, 7, 0, 7, 0, 7, 0, 7, 0, 7, 0, 16, 0, 17, 0), 35);
