@@ -3,9 +3,7 @@ public final class RunTest {
     private static final int MAP = Tester.MAP, JOIN = Tester.JOIN;
     private static final int FOLD = Tester.FOLD, END = Tester.END;
     private static final int LEAST = Integer.MIN_VALUE, GREATEST = Integer.MAX_VALUE;
-    // MAP: as many pairs as the value tells: the key with value, value - 1, .. 1.
-    private static final int[] MANY = {1, 1, 3, 0, 2, 0, 15, 12, 1, 0, 2, 0, 16, 0,
-        2, 0, 0, 1, 8, 0, 3, 0, 14, 2, 17, 0};
+    private static final int[] MANY = Tester.MANY;
 
     public static void main(String[] args) {
         Tester t = new Tester();
@@ -28,14 +26,6 @@ public final class RunTest {
         t.end();
     }
 
-    /** The value of the only result of a record under a MAP that sends one pair. */
-    private static long mapped(Tester t, int key, int value, int... map) {
-        GrindField x = t.field(1, map, Tester.FIRST);
-        x.record(key, value);
-        t.due("run", x.run(0), 1);
-        return x.result(0, 1);
-    }
-
     private static void arithmetic(Tester t) {
         int[][] wants = {
             // lower, upper, then by op from 7 to 13
@@ -56,11 +46,11 @@ public final class RunTest {
         };
         for (int[] want : wants) {
             for (int op = 7; op <= 13; op++) {
-                long got = mapped(t, want[0], want[1],
+                long got = t.mapped(want[0], want[1],
                     0, 0, 1, 0, 1, 1, op, 0, 16, 0, 17, 0);
                 t.due(want[0] + " op " + op + " " + want[1], got, want[op - 5]);
                 // What is below stays as it was.
-                long below = mapped(t, want[0], want[1],
+                long below = t.mapped(want[0], want[1],
                     0, 0, 0, 44, 1, 0, 1, 1, op, 0, 6, 0, 16, 0, 17, 0);
                 t.due("below op " + op, below, 44);
             }
@@ -68,37 +58,37 @@ public final class RunTest {
     }
 
     private static void stackAndLocals(Tester t) {
-        t.due("number", mapped(t, 3, 4, 0, 0, 0, LEAST, 16, 0, 17, 0), LEAST);
-        t.due("argument 0", mapped(t, 3, 4, 0, 0, 1, 0, 16, 0, 17, 0), 3);
-        t.due("argument 1", mapped(t, 3, 4, 0, 0, 1, 1, 16, 0, 17, 0), 4);
-        t.due("twice", mapped(t, 3, 4, 0, 0, 1, 1, 4, 0, 9, 0, 16, 0, 17, 0), 16);
-        t.due("not changed", mapped(t, 3, 4, 1, 0, 1, 1, 16, 0, 17, 0), 4);
-        t.due("changed", mapped(t, 3, 4, 1, 0, 1, 1, 5, 0, 16, 0, 17, 0), 3);
-        t.due("top gone", mapped(t, 3, 4, 0, 0, 1, 0, 1, 1, 6, 0, 16, 0, 17, 0), 3);
+        t.due("number", t.mapped(3, 4, 0, 0, 0, LEAST, 16, 0, 17, 0), LEAST);
+        t.due("argument 0", t.mapped(3, 4, 0, 0, 1, 0, 16, 0, 17, 0), 3);
+        t.due("argument 1", t.mapped(3, 4, 0, 0, 1, 1, 16, 0, 17, 0), 4);
+        t.due("twice", t.mapped(3, 4, 0, 0, 1, 1, 4, 0, 9, 0, 16, 0, 17, 0), 16);
+        t.due("not changed", t.mapped(3, 4, 1, 0, 1, 1, 16, 0, 17, 0), 4);
+        t.due("changed", t.mapped(3, 4, 1, 0, 1, 1, 5, 0, 16, 0, 17, 0), 3);
+        t.due("top gone", t.mapped(3, 4, 0, 0, 1, 0, 1, 1, 6, 0, 16, 0, 17, 0), 3);
         for (int local = 0; local < 4; local++) {
-            t.due("local at first", mapped(t, 3, 4, 0, 0, 2, local, 16, 0, 17, 0), 0);
-            t.due("local", mapped(t, 3, 4, 0, 0, 1, 1, 3, local, 2, local, 16, 0, 17, 0), 4);
-            t.due("other local", mapped(t, 3, 4, 0, 0, 1, 1, 3, (local + 1) % 4, 1, 0, 3, local,
+            t.due("local at first", t.mapped(3, 4, 0, 0, 2, local, 16, 0, 17, 0), 0);
+            t.due("local", t.mapped(3, 4, 0, 0, 1, 1, 3, local, 2, local, 16, 0, 17, 0), 4);
+            t.due("other local", t.mapped(3, 4, 0, 0, 1, 1, 3, (local + 1) % 4, 1, 0, 3, local,
                 2, (local + 1) % 4, 16, 0, 17, 0), 4);
-            t.due("top goes to local", mapped(t, 3, 4, 0, 0, 1, 0, 1, 1, 3, local, 16, 0, 17, 0), 3);
+            t.due("top goes to local", t.mapped(3, 4, 0, 0, 1, 0, 1, 1, 3, local, 16, 0, 17, 0), 3);
         }
-        t.due("key is the lower", mapped(t, 3, 4, 1, 1, 1, 0, 16, 0, 17, 0), 3);
+        t.due("key is the lower", t.mapped(3, 4, 1, 1, 1, 0, 16, 0, 17, 0), 3);
         GrindField x = t.field(1, new int[] {1, 0, 1, 1, 5, 0, 16, 0, 17, 0}, Tester.FIRST);
         t.records(x, 3, 4, 0, 9, -1, 0);
         t.due("run", x.run(0), 3);
         t.results("changed places", x, 0, -1, 4, 3, 9, 0);
         // 8 on the stack, all added.
-        t.due("full stack", mapped(t, 3, 4, 0, 1, 0, 2, 0, 3, 0, 4, 0, 5, 0, 6, 0, 7, 0, 8,
+        t.due("full stack", t.mapped(3, 4, 0, 1, 0, 2, 0, 3, 0, 4, 0, 5, 0, 6, 0, 7, 0, 8,
             7, 0, 7, 0, 7, 0, 7, 0, 7, 0, 7, 0, 16, 0, 17, 0), 35);
     }
 
     private static void jumps(Tester t) {
         int[] ifZero = {0, 0, 1, 1, 15, 5, 0, 10, 14, 6, 0, 20, 16, 0, 17, 0};
-        t.due("15 with 0", mapped(t, 0, 0, ifZero), 20);
-        t.due("15 with 1", mapped(t, 0, 1, ifZero), 10);
-        t.due("15 with -1", mapped(t, 0, -1, ifZero), 10);
-        t.due("15 with the least", mapped(t, 0, LEAST, ifZero), 10);
-        t.due("14", mapped(t, 0, 1, 14, 4, 0, 0, 0, 99, 14, 6, 0, 0, 0, 5, 16, 0, 17, 0), 5);
+        t.due("15 with 0", t.mapped(0, 0, ifZero), 20);
+        t.due("15 with 1", t.mapped(0, 1, ifZero), 10);
+        t.due("15 with -1", t.mapped(0, -1, ifZero), 10);
+        t.due("15 with the least", t.mapped(0, LEAST, ifZero), 10);
+        t.due("14", t.mapped(0, 1, 14, 4, 0, 0, 0, 99, 14, 6, 0, 0, 0, 5, 16, 0, 17, 0), 5);
     }
 
     private static void newForEachCall(Tester t) {
@@ -116,47 +106,34 @@ public final class RunTest {
         t.results("result is the top", x, 1, 6, 2, 2, 3, 3);
     }
 
-    /** So many steps in all: 5 for each round of a loop, the rest by going on. */
-    private static int[] stepping(int steps) {
-        int pads = (steps - 4) % 5;
-        int[] code = new int[2 * (pads + 7)];
-        for (int i = 0; i < pads; i++) {
-            code[2 * i] = 14;
-            code[2 * i + 1] = i + 1;
-        }
-        int[] loop = {0, (steps - 4) / 5, 4, 0, 15, pads + 6, 0, 1, 8, 0, 14, pads + 1, 17, 0};
-        System.arraycopy(loop, 0, code, 2 * pads, loop.length);
-        return code;
-    }
-
     private static void stepsOfACall(Tester t) {
-        GrindField x = t.field(4, stepping(300), Tester.SUM);
+        GrindField x = t.field(4, Tester.stepping(300), Tester.SUM);
         t.records(x, 1, 1, 1, 1);
         t.due("300 steps of MAP", x.run(0), 0);
         t.due("count(4)", x.count(4), 600);
-        t.load(x, MAP, stepping(301));
+        t.load(x, MAP, Tester.stepping(301));
         t.failed("301 steps of MAP", x, 0);
         t.load(x, MAP, Tester.SAME_PAIR);
         int[] programs = {JOIN, FOLD, END};
         for (int program : programs) {
             t.load(x, JOIN, program == FOLD ? new int[0] : Tester.SUM);
             t.load(x, FOLD, Tester.SUM);
-            t.load(x, program, stepping(300));
+            t.load(x, program, Tester.stepping(300));
             t.due("300 steps", x.run(0), 1);
             t.due("count", x.count(4 + program), 300);
-            t.load(x, program, stepping(301));
+            t.load(x, program, Tester.stepping(301));
             t.failed("301 steps", x, program * 1000);
             t.load(x, program);
         }
         // An 18 is a step, too.
         t.load(x, JOIN, Tester.SUM);
         t.load(x, FOLD, Tester.SUM);
-        int[] leaving = stepping(300);
+        int[] leaving = Tester.stepping(300);
         leaving[leaving.length - 2] = 18;
         t.load(x, END, leaving);
         t.due("300 steps to 18", x.run(0), 0);
         t.due("count(7)", x.count(7), 300);
-        leaving = stepping(301);
+        leaving = Tester.stepping(301);
         leaving[leaving.length - 2] = 18;
         t.load(x, END, leaving);
         t.failed("301 steps to 18", x, 3000);
