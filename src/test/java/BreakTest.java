@@ -1,23 +1,14 @@
 import java.lang.reflect.Method;
-import java.net.URI;
 import java.net.URL;
 import java.net.URLClassLoader;
 import java.nio.file.Files;
 import java.nio.file.Path;
 import java.util.ArrayList;
-import java.util.Comparator;
 import java.util.List;
 import java.util.concurrent.Callable;
 import java.util.concurrent.ExecutorService;
 import java.util.concurrent.Executors;
 import java.util.concurrent.Future;
-import java.util.stream.Stream;
-import javax.tools.DiagnosticCollector;
-import javax.tools.JavaCompiler;
-import javax.tools.JavaFileObject;
-import javax.tools.SimpleJavaFileObject;
-import javax.tools.StandardJavaFileManager;
-import javax.tools.ToolProvider;
 
 /** Breaks the program at each edge that the document names: the test of that edge must see it. */
 public final class BreakTest {
@@ -39,15 +30,7 @@ public final class BreakTest {
             URL tests = BreakTest.class.getProtectionDomain().getCodeSource().getLocation();
             new BreakTest(Files.readString(SOURCE), room, tests).breakAll();
         } finally {
-            remove(room);
-        }
-    }
-
-    private static void remove(Path room) throws Exception {
-        try (Stream<Path> files = Files.walk(room)) {
-            for (Path file : files.sorted(Comparator.reverseOrder()).toList()) {
-                Files.delete(file);
-            }
+            SourceCompiler.remove(room);
         }
     }
 
@@ -83,7 +66,7 @@ public final class BreakTest {
             text = text.replace(edits[i], edits[i + 1]);
         }
         Files.createDirectory(place);
-        String refused = compile(text, place);
+        String refused = SourceCompiler.compile("GrindField", text, place);
         if (!refused.isEmpty()) {
             return name + ": does not compile: " + refused;
         }
@@ -92,23 +75,6 @@ public final class BreakTest {
             Method finds = loader.loadClass("Boundaries").getDeclaredMethod("findsFault", int.class);
             finds.setAccessible(true);
             return (boolean) finds.invoke(null, number) ? "" : name + ": its test does not see it";
-        }
-    }
-
-    private static String compile(String text, Path place) throws Exception {
-        JavaCompiler compiler = ToolProvider.getSystemJavaCompiler();
-        DiagnosticCollector<JavaFileObject> told = new DiagnosticCollector<>();
-        JavaFileObject file = new SimpleJavaFileObject(URI.create("string:///GrindField.java"),
-            JavaFileObject.Kind.SOURCE) {
-            @Override
-            public CharSequence getCharContent(boolean ignored) {
-                return text;
-            }
-        };
-        try (StandardJavaFileManager files = compiler.getStandardFileManager(told, null, null)) {
-            List<String> options = List.of("-d", place.toString(), "-proc:none");
-            boolean done = compiler.getTask(null, files, told, options, null, List.of(file)).call();
-            return done ? "" : told.getDiagnostics().toString();
         }
     }
 }
